@@ -343,13 +343,8 @@ public final class InspectionOffice {
 
         /** Below the letter 0 the letter 0 counts, as the document asks for reduced inspection. */
         private static int sampleOf(int letter) {
-            if (letter <= 0) {
-                return SAMPLE_OF_LETTER[0];
-            }
-            if (letter >= SAMPLE_OF_LETTER.length) {
-                return SAMPLE_OF_LETTER[SAMPLE_OF_LETTER.length - 1];
-            }
-            return SAMPLE_OF_LETTER[letter];
+            boolean exists = letter >= 0 && letter < SAMPLE_OF_LETTER.length;
+            return SAMPLE_OF_LETTER[exists ? letter : 0];
         }
 
         void inspect(Lot lot, int state) {
@@ -396,8 +391,9 @@ public final class InspectionOffice {
 
         int refusedInLast(int window) {
             int found = 0;
-            for (int at = 0; at < length && at < MOST_LOTS; at++) {
-                if (at >= length - window && refused[at]) {
+            int from = length > window ? length - window : 0;
+            for (int at = from; at >= 0 && at < length && at < MOST_LOTS; at++) {
+                if (refused[at]) {
                     found++;
                 }
             }
@@ -406,10 +402,9 @@ public final class InspectionOffice {
 
         int badInLast(int window) {
             int found = 0;
-            for (int at = 0; at < length && at < MOST_LOTS; at++) {
-                if (at >= length - window) {
-                    found += bad[at];
-                }
+            int from = length > window ? length - window : 0;
+            for (int at = from; at >= 0 && at < length && at < MOST_LOTS; at++) {
+                found += bad[at];
             }
             return found;
         }
@@ -478,7 +473,8 @@ public final class InspectionOffice {
             if (state == TIGHTENED) {
                 return behindTightened();
             }
-            // A refused lot has more bad items than the accepting number and one more, too.
+            // Above the accepting number is the lot that ends reduced though accepted, and,
+            // further above, each refused one.
             boolean ends = lot.bad > plans.acceptingUnder(lot.size, REDUCED);
             return ends ? NORMAL : REDUCED;
         }
@@ -555,14 +551,25 @@ public final class InspectionOffice {
         static long listedWithAtMost(int size, int bad, int sample, int most) {
             int badItems = (1 << bad) - 1;
             int end = 1 << size;
+            int items = (1 << sample) - 1;
             long ways = 0;
-            for (int items = 0; items < end; items++) {
-                if (Integer.bitCount(items) == sample
-                        && Integer.bitCount(items & badItems) <= most) {
+            for (int listed = 0; listed < end && items < end; listed++) {
+                if (Integer.bitCount(items & badItems) <= most) {
                     ways++;
                 }
+                items = nextWithAsManyBits(items);
             }
             return ways;
+        }
+
+        /** Moves up the lowest bit that can move, and puts all bits below it back to the bottom. */
+        private static int nextWithAsManyBits(int bits) {
+            int lowest = bits & -bits;
+            if (lowest <= 0) {
+                return Integer.MAX_VALUE;
+            }
+            int moved = bits + lowest;
+            return moved | ((moved ^ bits) >>> 2) / lowest;
         }
 
         static long pairsAccepted(int size, int bad, int sample, int most) {

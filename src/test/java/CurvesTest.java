@@ -82,7 +82,7 @@ public final class CurvesTest {
         Check.due("listing 10 3 4 1", 140, office.acceptedByListing(10, 3, 4, 1));
         Check.due("listing 14 7 7 3", 1716, office.acceptedByListing(14, 7, 7, 3));
         Check.due("listing 14 14 14 60", 1, office.acceptedByListing(14, 14, 14, 60));
-        for (int size = 2; size <= 9; size++) {
+        for (int size = 2; size <= 14; size++) {
             for (int bad = 0; bad <= size; bad++) {
                 for (int sample = 1; sample <= size; sample++) {
                     for (int most = 0; most <= size + 1; most++) {

@@ -28,6 +28,7 @@ public final class VerdictsTest {
         skippingBeginsUnderReduced();
         tightenedBeginsTheCountAnew();
         lateLotsCountInTheirOrder();
+        nothingStaysOfAnInspectionBefore();
         Check.end();
     }
 
@@ -401,5 +402,20 @@ public final class VerdictsTest {
         dueStates("six apart", "00000000", office);
         office.record(0, 100, ALL);
         dueStates("two at the beginning", "001111100", office);
+    }
+
+    private static void nothingStaysOfAnInspectionBefore() {
+        InspectionOffice office = officeWith("ooooooooxo");
+        dueLot(office, 8, 0, 13, 13);
+        office.setWays(false, false, 2);
+        dueLot(office, 8, 2, 0, 0);
+        office = officeWith("xoooooxxxxxx");
+        dueLot(office, 11, 0, 13, 13);
+        office.correct(1, ALL);
+        office.correct(2, ALL);
+        dueLot(office, 11, 3, 0, 0);
+        office.correct(2, 0);
+        office.correct(1, 0);
+        dueLot(office, 11, 0, 13, 13);
     }
 }
