@@ -243,6 +243,10 @@ public final class VerdictsTest {
         dueStates("five, then three", "0000000000022", office);
         office.correct(1, 0);
         dueStates("four", "0000000000222", office);
+        office.correct(0, 0);
+        office.correct(1, 3);
+        office.correct(4, 1);
+        dueStates("five in the window that moved, too", "0000000000002", office);
     }
 
     private static void tightenedBecomesNormal() {
