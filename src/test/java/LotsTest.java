@@ -1,7 +1,5 @@
 /** Promises 5 to 9: record, correct, strike, lots, orderAt. */
 public final class LotsTest {
-    private static final long ALL = (1L << 50) - 1;
-
     private LotsTest() {
     }
 
@@ -21,15 +19,16 @@ public final class LotsTest {
     private static void record() {
         InspectionOffice office = new InspectionOffice();
         Check.due("the lowest of all", 1, office.record(0, 2, 0));
-        Check.due("the highest of all", 2, office.record(199, 5000, ALL));
+        Check.due("the highest of all", 2, office.record(199, 5000, Row.ALL));
         Check.due("a late one", 3, office.record(100, 60, 1L << 49));
         Check.due("lots", 3, office.lots());
         Check.due("findings of 0", 0, office.correct(0, 1));
-        Check.due("findings of 199", ALL, office.correct(199, 1));
+        Check.due("findings of 199", Row.ALL, office.correct(199, 1));
         Check.due("findings of 100", 1L << 49, office.correct(100, 1));
     }
 
-    private static void dueNotRecorded(InspectionOffice office, int order, int size, long findings) {
+    private static void dueNotRecorded(InspectionOffice office, int order, int size,
+            long findings) {
         int before = office.lots();
         Check.dueIllegalArgument("record " + order + " " + size + " " + findings,
                 () -> office.record(order, size, findings));
@@ -46,7 +45,7 @@ public final class LotsTest {
             dueNotRecorded(office, 8, size, 0);
             dueNotRecorded(office, 7, size, 0);
         }
-        for (long findings : new long[] {-1, ALL + 1, Long.MIN_VALUE, Long.MAX_VALUE}) {
+        for (long findings : new long[] {-1, Row.ALL + 1, Long.MIN_VALUE, Long.MAX_VALUE}) {
             dueNotRecorded(office, 8, 60, findings);
             dueNotRecorded(office, 7, 60, findings);
         }
@@ -82,15 +81,15 @@ public final class LotsTest {
         Check.due("findings before", 15, office.correct(0, 0));
         Check.due("normal", 0, office.state());
         Check.due("accepted", 1, office.verdict(0));
-        Check.due("findings corrected", 0, office.correct(0, ALL));
+        Check.due("findings corrected", 0, office.correct(0, Row.ALL));
         Check.due("tightened again", 1, office.state());
-        Check.due("all findings", ALL, office.correct(0, ALL));
+        Check.due("all findings", Row.ALL, office.correct(0, Row.ALL));
     }
 
     private static void correctRefuses() {
         InspectionOffice office = new InspectionOffice();
         office.record(0, 100, 15);
-        for (long findings : new long[] {-1, ALL + 1, Long.MIN_VALUE, Long.MAX_VALUE}) {
+        for (long findings : new long[] {-1, Row.ALL + 1, Long.MIN_VALUE, Long.MAX_VALUE}) {
             Check.dueIllegalArgument("correct to " + findings, () -> office.correct(0, findings));
             Check.dueIllegalArgument("findings come first", () -> office.correct(1, findings));
         }

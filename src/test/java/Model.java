@@ -28,7 +28,8 @@ final class Model {
     }
 
     int letter(int size) {
-        int kind = size <= 8 ? 0 : size <= 15 ? 1 : size <= 50 ? 2 : size <= 150 ? 3 : size <= 500 ? 4 : 5;
+        int kind = size <= 8 ? 0 : size <= 15 ? 1 : size <= 50 ? 2
+                : size <= 150 ? 3 : size <= 500 ? 4 : 5;
         int letter = kind + level;
         while (items(letter) > size) {
             letter--;

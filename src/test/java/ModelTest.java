@@ -1,7 +1,8 @@
-/** Long runs of calls, each followed by every question, held against the model. */
+/** Long runs of calls, a question behind each and all of them at the end, held against the model. */
 public final class ModelTest {
-    private static final int RUNS = 300;
-    private static final int CALLS = 140;
+    private static final int RUNS = 3000;
+    /** With a question each, and all questions on 60 lots at last, no more than 512 calls. */
+    private static final int MOST_CHANGES = 96;
     private long seed;
 
     private ModelTest(long seed) {
@@ -26,11 +27,33 @@ public final class ModelTest {
         Model model = new Model();
         int orders = 20 + pick(181);
         int badness = pick(6);
-        for (int call = 0; call < CALLS; call++) {
+        int changes = run % 8 == 0 ? 1 + pick(MOST_CHANGES) : MOST_CHANGES;
+        for (int call = 0; call < changes; call++) {
             String told = "run " + run + ", call " + call;
             change(told, office, model, orders, badness);
             model.workOut();
-            compare(told, office, model);
+            ask(told, office, model, pick(orders));
+        }
+        compare("run " + run, office, model);
+    }
+
+    private void ask(String told, InspectionOffice office, Model model, int order) {
+        Model.Told lot = model.lots.get(order);
+        int kind = pick(6);
+        if (kind == 0) {
+            Check.due(told + " state", model.state, office.state());
+        } else if (kind == 1) {
+            Check.due(told + " isSkipping", model.skipping, office.isSkipping());
+        } else if (lot == null) {
+            Check.dueIllegalState(told + " verdict " + order, () -> office.verdict(order));
+        } else if (kind == 2) {
+            Check.due(told + " verdict " + order, lot.verdict, office.verdict(order));
+        } else if (kind == 3) {
+            Check.due(told + " stateAt " + order, lot.state, office.stateAt(order));
+        } else if (kind == 4) {
+            Check.due(told + " inspected " + order, lot.inspected, office.inspected(order));
+        } else {
+            Check.due(told + " badIn " + order, lot.bad, office.badIn(order));
         }
     }
 
@@ -45,7 +68,8 @@ public final class ModelTest {
     }
 
     private int size() {
-        int[] ends = {2, 3, 4, 5, 7, 8, 9, 15, 16, 20, 31, 32, 49, 50, 51, 150, 151, 500, 501, 5000};
+        int[] ends = {
+            2, 3, 4, 5, 7, 8, 9, 15, 16, 20, 31, 32, 49, 50, 51, 150, 151, 500, 501, 5000};
         return pick(2) == 0 ? ends[pick(ends.length)] : 2 + pick(4999);
     }
 

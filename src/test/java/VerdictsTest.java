@@ -1,7 +1,6 @@
 /** Promises 10 to 16: verdict, stateAt, state, isSkipping, inspected, badIn, count. */
 public final class VerdictsTest {
     private static final int[] NO_ORDERS = {4, 199, -1, 200, Integer.MIN_VALUE, Integer.MAX_VALUE};
-    private static final long ALL = (1L << 50) - 1;
 
     private VerdictsTest() {
     }
@@ -32,43 +31,8 @@ public final class VerdictsTest {
         Check.end();
     }
 
-    /** Lots of 100 items one behind the other; their plan under normal takes 13 and allows none. */
-    private static InspectionOffice officeWith(String lots) {
-        InspectionOffice office = new InspectionOffice();
-        record(office, lots);
-        return office;
-    }
-
-    private static void record(InspectionOffice office, String lots) {
-        int from = office.lots();
-        for (int at = 0; at < lots.length(); at++) {
-            office.record(from + at, 100, lots.charAt(at) == 'x' ? ALL : 0);
-        }
-    }
-
-    private static void dueVerdicts(String what, String want, InspectionOffice office) {
-        int[] counts = new int[4];
-        for (int at = 0; at < want.length(); at++) {
-            int verdict = want.charAt(at) - '0';
-            counts[verdict]++;
-            Check.due(what + ": verdict " + at, verdict, office.verdict(office.orderAt(at)));
-        }
-        for (int verdict = 0; verdict <= 3; verdict++) {
-            Check.due(what + ": count " + verdict, counts[verdict], office.count(verdict));
-        }
-    }
-
-    private static void dueStates(String what, String want, InspectionOffice office) {
-        Check.due(what + ": lots", want.length() - 1, office.lots());
-        for (int at = 0; at < want.length() - 1; at++) {
-            Check.due(what + ": stateAt " + at, want.charAt(at) - '0',
-                    office.stateAt(office.orderAt(at)));
-        }
-        Check.due(what + ": state", want.charAt(want.length() - 1) - '0', office.state());
-    }
-
     private static void noSuchLots() {
-        InspectionOffice office = officeWith("ooxo");
+        InspectionOffice office = Row.of("ooxo");
         for (int order : NO_ORDERS) {
             Check.dueIllegalState("verdict " + order, () -> office.verdict(order));
             Check.dueIllegalState("stateAt " + order, () -> office.stateAt(order));
@@ -78,18 +42,16 @@ public final class VerdictsTest {
     }
 
     private static void noSuchVerdicts() {
-        InspectionOffice office = officeWith("ooxo");
+        InspectionOffice office = Row.of("ooxo");
         for (int verdict : new int[] {-1, 4, Integer.MIN_VALUE, Integer.MAX_VALUE}) {
             Check.dueIllegalArgument("count " + verdict, () -> office.count(verdict));
         }
-        dueVerdicts("ooxo", "1101", office);
+        Row.dueVerdicts("ooxo", "1101", office);
     }
 
     private static void dueLot(InspectionOffice office, int order, int verdict, int inspected,
             int bad) {
-        Check.due("verdict " + order, verdict, office.verdict(order));
-        Check.due("inspected " + order, inspected, office.inspected(order));
-        Check.due("badIn " + order, bad, office.badIn(order));
+        Row.dueLot("lot", office, order, verdict, inspected, bad);
     }
 
     private static void singlePlans() {
@@ -100,7 +62,7 @@ public final class VerdictsTest {
         dueLot(office, 0, 0, 32, 3);
         office.correct(0, 1L << 31 | 3);
         dueLot(office, 0, 0, 32, 3);
-        office.correct(0, ALL ^ ((1L << 32) - 1) | 3);
+        office.correct(0, Row.ALL ^ ((1L << 32) - 1) | 3);
         dueLot(office, 0, 1, 32, 2);
         office.setPlan(2, 3);
         dueLot(office, 0, 0, 50, 20);
@@ -112,7 +74,7 @@ public final class VerdictsTest {
 
     /** Ten lots under normal inspection, then a lot of 5000 under reduced: 13 items, 1 or 2 bad. */
     private static InspectionOffice reduced() {
-        InspectionOffice office = officeWith("oooooooooo");
+        InspectionOffice office = Row.of("oooooooooo");
         office.setWays(false, true, 0);
         Check.due("reduced", 2, office.state());
         return office;
@@ -183,8 +145,8 @@ public final class VerdictsTest {
 
     private static void doublePlansUnderTightened() {
         InspectionOffice office = doubleOffice();
-        office.record(0, 500, ALL);
-        office.record(1, 500, ALL);
+        office.record(0, 500, Row.ALL);
+        office.record(1, 500, Row.ALL);
         dueLot(office, 1, 0, 14, 14);
         Check.due("tightened", 1, office.state());
         // 20 items allow 2 there.
@@ -208,29 +170,29 @@ public final class VerdictsTest {
     }
 
     private static void normalBecomesTightened() {
-        dueStates("the fifth", "000001", officeWith("xooox"));
-        dueStates("the sixth", "0000000", officeWith("xoooox"));
-        dueStates("at once", "001", officeWith("xx"));
-        dueStates("not before normal began", "0011111000", officeWith("xxoooooxo"));
-        dueStates("two of the new ones", "00111110001", officeWith("xxoooooxox"));
+        Row.dueStates("the fifth", "000001", Row.of("xooox"));
+        Row.dueStates("the sixth", "0000000", Row.of("xoooox"));
+        Row.dueStates("at once", "001", Row.of("xx"));
+        Row.dueStates("not before normal began", "0011111000", Row.of("xxoooooxo"));
+        Row.dueStates("two of the new ones", "00111110001", Row.of("xxoooooxox"));
     }
 
     private static void normalBecomesReduced() {
-        InspectionOffice office = officeWith("ooooooooo");
+        InspectionOffice office = Row.of("ooooooooo");
         office.setWays(false, true, 0);
-        dueStates("nine", "0000000000", office);
-        record(office, "o");
-        dueStates("ten", "00000000002", office);
+        Row.dueStates("nine", "0000000000", office);
+        Row.record(office, "o");
+        Row.dueStates("ten", "00000000002", office);
         office.setWays(false, false, 0);
-        dueStates("not steady", "00000000000", office);
-        office = officeWith("xoooooooooo");
+        Row.dueStates("not steady", "00000000000", office);
+        office = Row.of("xoooooooooo");
         office.setWays(false, true, 0);
-        dueStates("the last ten", "000000000002", office);
-        office = officeWith("xxoooooooooooooo");
+        Row.dueStates("the last ten", "000000000002", office);
+        office = Row.of("xxoooooooooooooo");
         office.setWays(false, true, 0);
-        dueStates("nine since normal began", "00111110000000000", office);
-        record(office, "o");
-        dueStates("ten since normal began", "001111100000000002", office);
+        Row.dueStates("nine since normal began", "00111110000000000", office);
+        Row.record(office, "o");
+        Row.dueStates("ten since normal began", "001111100000000002", office);
     }
 
     private static void reducedNeedsFewBadItems() {
@@ -240,19 +202,19 @@ public final class VerdictsTest {
         for (int order = 0; order < findings.length; order++) {
             office.record(order, 5000, findings[order]);
         }
-        dueStates("five, then three", "0000000000022", office);
+        Row.dueStates("five, then three", "0000000000022", office);
         office.correct(1, 0);
-        dueStates("four", "0000000000222", office);
+        Row.dueStates("four", "0000000000222", office);
         office.correct(0, 0);
         office.correct(1, 3);
         office.correct(4, 1);
-        dueStates("five in the window that moved, too", "0000000000002", office);
+        Row.dueStates("five in the window that moved, too", "0000000000002", office);
     }
 
     private static void tightenedBecomesNormal() {
-        dueStates("four", "0011111", officeWith("xxoooo"));
-        dueStates("five", "00111110", officeWith("xxooooo"));
-        dueStates("five in a row", "0011111111110", officeWith("xxooooxooooo"));
+        Row.dueStates("four", "0011111", Row.of("xxoooo"));
+        Row.dueStates("five", "00111110", Row.of("xxooooo"));
+        Row.dueStates("five in a row", "0011111111110", Row.of("xxooooxooooo"));
         InspectionOffice office = new InspectionOffice();
         office.record(0, 100, 1);
         office.record(1, 100, 1);
@@ -263,12 +225,12 @@ public final class VerdictsTest {
     }
 
     private static void tightenedBecomesStopped() {
-        dueStates("four", "0011111", officeWith("xxxxxx"));
-        dueStates("five", "00111113", officeWith("xxxxxxx"));
-        dueStates("five, not in a row", "0011111111113", officeWith("xxxoxoxooxox"));
-        InspectionOffice office = officeWith("xxxxxxxox");
-        dueStates("held", "0011111333", office);
-        dueVerdicts("held", "000000033", office);
+        Row.dueStates("four", "0011111", Row.of("xxxxxx"));
+        Row.dueStates("five", "00111113", Row.of("xxxxxxx"));
+        Row.dueStates("five, not in a row", "0011111111113", Row.of("xxxoxoxooxox"));
+        InspectionOffice office = Row.of("xxxxxxxox");
+        Row.dueStates("held", "0011111333", office);
+        Row.dueVerdicts("held", "000000033", office);
         dueLot(office, 7, 3, 0, 0);
         dueLot(office, 8, 3, 0, 0);
     }
@@ -276,104 +238,104 @@ public final class VerdictsTest {
     private static void stoppedHoldsUntilAMark() {
         InspectionOffice office = new InspectionOffice();
         for (int order = 0; order < 7; order++) {
-            office.record(order * 10, 100, ALL);
+            office.record(order * 10, 100, Row.ALL);
         }
         office.record(70, 100, 0);
-        office.record(80, 100, ALL);
+        office.record(80, 100, Row.ALL);
         office.toggleMark(59);
         office.toggleMark(60);
-        dueVerdicts("marks up to the stop", "000000033", office);
+        Row.dueVerdicts("marks up to the stop", "000000033", office);
         office.toggleMark(71);
-        dueVerdicts("a mark before the lot 80", "000000030", office);
-        dueStates("a mark before the lot 80", "0011111311", office);
+        Row.dueVerdicts("a mark before the lot 80", "000000030", office);
+        Row.dueStates("a mark before the lot 80", "0011111311", office);
         office.toggleMark(61);
-        dueVerdicts("a mark before the lot 70", "000000010", office);
-        dueStates("a mark before the lot 70", "0011111111", office);
+        Row.dueVerdicts("a mark before the lot 70", "000000010", office);
+        Row.dueStates("a mark before the lot 70", "0011111111", office);
         for (int order = 90; order <= 120; order += 10) {
-            office.record(order, 100, ALL);
+            office.record(order, 100, Row.ALL);
         }
-        dueStates("five refused anew", "00111111111113", office);
+        Row.dueStates("five refused anew", "00111111111113", office);
         office.record(130, 100, 0);
-        dueVerdicts("the marks are used up", "00000001000003", office);
+        Row.dueVerdicts("the marks are used up", "00000001000003", office);
         office.toggleMark(130);
-        dueVerdicts("at its order", "00000001000001", office);
+        Row.dueVerdicts("at its order", "00000001000001", office);
         office.record(140, 100, 0);
         office.record(150, 100, 0);
         office.record(160, 100, 0);
-        dueStates("four", "001111111111111111", office);
+        Row.dueStates("four", "001111111111111111", office);
         office.record(170, 100, 0);
-        dueStates("five", "0011111111111111110", office);
+        Row.dueStates("five", "0011111111111111110", office);
     }
 
     private static void reducedBecomesNormal() {
         InspectionOffice office = reduced();
-        record(office, "ox");
-        dueStates("refused", "0000000000220", office);
-        record(office, "xo");
-        dueStates("the refused lot counts no more", "000000000022000", office);
-        record(office, "x");
-        dueStates("two of the new ones", "0000000000220001", office);
+        Row.record(office, "ox");
+        Row.dueStates("refused", "0000000000220", office);
+        Row.record(office, "xo");
+        Row.dueStates("the refused lot counts no more", "000000000022000", office);
+        Row.record(office, "x");
+        Row.dueStates("two of the new ones", "0000000000220001", office);
     }
 
     private static void skippingBegins() {
-        InspectionOffice office = officeWith("ooooooo");
+        InspectionOffice office = Row.of("ooooooo");
         office.setWays(false, false, 2);
         Check.due("seven", false, office.isSkipping());
-        record(office, "o");
+        Row.record(office, "o");
         Check.due("eight", true, office.isSkipping());
-        dueVerdicts("eight", "11111111", office);
-        office = officeWith("oxooooooo");
+        Row.dueVerdicts("eight", "11111111", office);
+        office = Row.of("oxooooooo");
         office.setWays(false, false, 2);
         Check.due("seven behind a refused one", false, office.isSkipping());
-        record(office, "o");
+        Row.record(office, "o");
         Check.due("eight behind a refused one", true, office.isSkipping());
         office.setWays(false, false, 0);
         Check.due("not set to skip", false, office.isSkipping());
     }
 
     private static void skippingGoesByTheRate() {
-        InspectionOffice office = officeWith("oooooooooooooooooo");
+        InspectionOffice office = Row.of("oooooooooooooooooo");
         String[] due = {"2121212121", "2212212212", "2221222122", "2222122221"};
         for (int rate = 2; rate <= 5; rate++) {
             office.setWays(false, false, rate);
-            dueVerdicts("rate " + rate, "11111111" + due[rate - 2], office);
+            Row.dueVerdicts("rate " + rate, "11111111" + due[rate - 2], office);
             Check.due("goes on", true, office.isSkipping());
         }
         dueLot(office, 8, 2, 0, 0);
         Check.due("skipped under normal", 0, office.stateAt(8));
-        office.correct(8, ALL);
+        office.correct(8, Row.ALL);
         dueLot(office, 8, 2, 0, 0);
     }
 
     private static void skippingEnds() {
-        InspectionOffice office = officeWith("oooooooooxoxoooo");
+        InspectionOffice office = Row.of("oooooooooxoxoooo");
         office.setWays(false, false, 2);
-        dueVerdicts("ends with a refused lot", "1111111120101111", office);
+        Row.dueVerdicts("ends with a refused lot", "1111111120101111", office);
         Check.due("ended", false, office.isSkipping());
-        office = officeWith("ooooooooxxoooooooo");
+        office = Row.of("ooooooooxxoooooooo");
         office.setWays(false, false, 2);
-        dueVerdicts("skipped lots count for nothing", "111111112011111111", office);
+        Row.dueVerdicts("skipped lots count for nothing", "111111112011111111", office);
         Check.due("eight again", true, office.isSkipping());
-        dueStates("one refused", "0000000000000000000", office);
-        record(office, "xo");
-        dueVerdicts("a new group", "11111111201111111121", office);
+        Row.dueStates("one refused", "0000000000000000000", office);
+        Row.record(office, "xo");
+        Row.dueVerdicts("a new group", "11111111201111111121", office);
     }
 
     private static void skippingBeginsUnderReduced() {
-        InspectionOffice office = officeWith("oooooxooooooooooooo");
+        InspectionOffice office = Row.of("oooooxooooooooooooo");
         office.setWays(false, true, 3);
-        dueVerdicts("reduced while skipping", "1111101111111122122", office);
-        dueStates("reduced while skipping", "00000000000000000000", office);
-        record(office, "ooo");
-        dueVerdicts("the tenth", "1111101111111122122122", office);
-        dueStates("the tenth", "00000000000000000000222", office);
+        Row.dueVerdicts("reduced while skipping", "1111101111111122122", office);
+        Row.dueStates("reduced while skipping", "00000000000000000000", office);
+        Row.record(office, "ooo");
+        Row.dueVerdicts("the tenth", "1111101111111122122122", office);
+        Row.dueStates("the tenth", "00000000000000000000222", office);
         office.setWays(false, false, 3);
-        dueStates("not steady", "00000000000000000000000", office);
+        Row.dueStates("not steady", "00000000000000000000000", office);
         oneMoreBadItemGoesOnSkipping();
     }
 
     private static void oneMoreBadItemGoesOnSkipping() {
-        InspectionOffice office = officeWith("oooooooooooo");
+        InspectionOffice office = Row.of("oooooooooooo");
         office.setWays(false, true, 2);
         Check.due("reduced behind ten inspected", 2, office.state());
         office.record(12, 5000, 3);
@@ -385,38 +347,38 @@ public final class VerdictsTest {
     }
 
     private static void tightenedBeginsTheCountAnew() {
-        InspectionOffice office = officeWith("xxoooooooooooo");
+        InspectionOffice office = Row.of("xxoooooooooooo");
         office.setWays(false, false, 2);
-        dueStates("tightened, then normal", "001111100000000", office);
+        Row.dueStates("tightened, then normal", "001111100000000", office);
         Check.due("seven under normal", false, office.isSkipping());
-        record(office, "o");
+        Row.record(office, "o");
         Check.due("eight under normal", true, office.isSkipping());
     }
 
     private static void lateLotsCountInTheirOrder() {
         InspectionOffice office = new InspectionOffice();
-        office.record(30, 100, ALL);
-        office.record(10, 100, ALL);
-        dueStates("30 behind 10", "001", office);
+        office.record(30, 100, Row.ALL);
+        office.record(10, 100, Row.ALL);
+        Row.dueStates("30 behind 10", "001", office);
         office.record(20, 100, 0);
-        dueStates("20 between", "0001", office);
+        Row.dueStates("20 between", "0001", office);
         for (int order = 11; order <= 14; order++) {
             office.record(order, 100, 0);
         }
-        dueStates("six apart", "00000000", office);
-        office.record(0, 100, ALL);
-        dueStates("two at the beginning", "001111100", office);
+        Row.dueStates("six apart", "00000000", office);
+        office.record(0, 100, Row.ALL);
+        Row.dueStates("two at the beginning", "001111100", office);
     }
 
     private static void nothingStaysOfAnInspectionBefore() {
-        InspectionOffice office = officeWith("ooooooooxo");
+        InspectionOffice office = Row.of("ooooooooxo");
         dueLot(office, 8, 0, 13, 13);
         office.setWays(false, false, 2);
         dueLot(office, 8, 2, 0, 0);
-        office = officeWith("xoooooxxxxxx");
+        office = Row.of("xoooooxxxxxx");
         dueLot(office, 11, 0, 13, 13);
-        office.correct(1, ALL);
-        office.correct(2, ALL);
+        office.correct(1, Row.ALL);
+        office.correct(2, Row.ALL);
         dueLot(office, 11, 3, 0, 0);
         office.correct(2, 0);
         office.correct(1, 0);
