@@ -18,6 +18,7 @@ public final class SixtyLotsTest {
         resumedByTheLast();
         skippedByEachRate();
         struckAndRecordedTimeAndAgain();
+        upToThe512thCall();
         Check.end();
     }
 
@@ -173,5 +174,17 @@ public final class SixtyLotsTest {
             office.correct(order, 0);
         }
         Row.dueStates("all good", "0".repeat(60) + "0", office);
+    }
+
+    /** "An object is used for at most 512 calls": 61 by the row, two each time, and the last one. */
+    private static void upToThe512thCall() {
+        InspectionOffice office = Row.of("o".repeat(60));
+        for (int time = 1; time <= 225; time++) {
+            int bad = time % 14;
+            Check.due("findings before", Row.bad((time - 1) % 14),
+                    office.correct(0, Row.bad(bad)));
+            Check.due("bad then", bad, office.badIn(0));
+        }
+        Check.due("the 512th call", 59, office.count(1));
     }
 }
